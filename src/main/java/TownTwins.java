@@ -10,7 +10,6 @@ public final class TownTwins {
 
     private static final int LAST_DAY = 3599;
     private static final int DAYS_A_YEAR = 360;
-    private static final int YEARS = 10;
     /** Behind every day: what is broken or taken back then never is. */
     private static final int NEVER = LAST_DAY + 1;
 
@@ -40,7 +39,7 @@ public final class TownTwins {
     private final Towns towns = known.towns;
     private final Charters charters = known.charters;
     private final Events events = known.events;
-    private final Union union = new Union();
+    private final Union union = known.union;
     private final Lodging lodging = new Lodging();
     private final PlanBook planBook = new PlanBook();
     private final Friends friends = new Friends();
@@ -125,7 +124,7 @@ public final class TownTwins {
         if (charters.told[charter] > k) {
             return what == 4 ? NONE : 0;
         }
-        known.look(k, union.textOn(k));
+        known.look(k);
         switch (what) {
             case 0:
                 return known.isAlive(charter, day) ? 1 : 0;
@@ -134,7 +133,7 @@ public final class TownTwins {
             case 2:
                 return known.sleeps(charter, day) ? 1 : 0;
             case 3:
-                return known.visitsAhead(charter, day, MOST_EVENTS);
+                return known.visitsBy(charter, day);
             default:
                 return known.generousSide(charter, day);
         }
@@ -144,7 +143,7 @@ public final class TownTwins {
         needEvent(event);
         needKind(what, 3);
         needPast(k);
-        known.look(k, union.textOn(k));
+        known.look(k);
         if (what == 0) {
             return known.holds(event) ? 1 : 0;
         }
@@ -154,7 +153,7 @@ public final class TownTwins {
         if (what == 3) {
             return known.costOf(event);
         }
-        known.settle();
+        known.settleYearOf(event);
         return what == 1 ? known.claims[event] : known.grants[event];
     }
 
@@ -164,8 +163,7 @@ public final class TownTwins {
         needKind(side, 1);
         needDay(day);
         needPast(k);
-        known.look(k, union.textOn(k));
-        known.settle();
+        known.look(k);
         return known.balanceOf(charter, side, day);
     }
 
@@ -401,6 +399,8 @@ public final class TownTwins {
         final int[] day = new int[MOST_EVENTS];
         final int[] told = new int[MOST_EVENTS];
         final int[] takenBack = new int[MOST_EVENTS];
+        /** The events as they go: by days, and those of one day by their numbers. */
+        final int[] order = new int[MOST_EVENTS];
         int count = 0;
 
         int add(int what, int of, int many, int by, int stay, int youths, int on) {
@@ -414,7 +414,17 @@ public final class TownTwins {
             nights[count] = stay;
             young[count] = youths;
             day[count] = on;
+            putInOrder(count);
             return count++;
+        }
+
+        private void putInOrder(int event) {
+            int at = event;
+            while (at > 0 && day[order[at - 1]] > day[event]) {
+                order[at] = order[at - 1];
+                at--;
+            }
+            order[at] = event;
         }
 
         void stamp(int event, int today) {
@@ -430,15 +440,6 @@ public final class TownTwins {
                 takenBack[event] = today;
             }
             return first;
-        }
-
-        boolean isKnown(int event, int k) {
-            return told[event] <= k && takenBack[event] > k;
-        }
-
-        /** Events go by days, and those of one day by their numbers. */
-        boolean isAhead(int event, int ofDay, int ofNumber) {
-            return day[event] < ofDay || day[event] == ofDay && event < ofNumber;
         }
     }
 
@@ -468,7 +469,10 @@ public final class TownTwins {
             if (texts >= MOST_TEXTS) {
                 return TOO_MANY_TEXTS;
             }
-            reader.read(length);
+            reader.start(length);
+            for (int clause = 0; clause <= RuleText.MOST_CLAUSES && reader.hasMore(); clause++) {
+                reader.readClause(clause);
+            }
             if (reader.fault != 0) {
                 faultPlace = reader.place;
                 return reader.fault;
@@ -575,7 +579,7 @@ public final class TownTwins {
                 int step = steps[at];
                 if (step == NOT) {
                     if (top >= 1) {
-                        stack[top - 1] = truth(stack[top - 1] == 0);
+                        stack[top - 1] = stack[top - 1] == 0 ? 1 : 0;
                     }
                 } else if (step < 0 && step > FIRST_VALUE) {
                     if (top >= 2) {
@@ -592,13 +596,13 @@ public final class TownTwins {
         private static long joined(int step, long left, long right) {
             switch (step) {
                 case OR:
-                    return truth(left != 0 || right != 0);
+                    return left != 0 || right != 0 ? 1 : 0;
                 case AND:
-                    return truth(left != 0 && right != 0);
+                    return left != 0 && right != 0 ? 1 : 0;
                 case LESS:
-                    return truth(left < right);
+                    return left < right ? 1 : 0;
                 case LIKE:
-                    return truth(left == right);
+                    return left == right ? 1 : 0;
                 case PLUS:
                     return left + right;
                 case MINUS:
@@ -611,15 +615,11 @@ public final class TownTwins {
                     return right != 0 ? 0 : left;
             }
         }
-
-        private static long truth(boolean holds) {
-            return holds ? 1 : 0;
-        }
     }
 
     /**
-     * Reads rules from the tape, which it holds, by descent. After a fault no token stands there any more, so that every
-     * loop ends by itself and the first fault stays.
+     * Reads rules from the tape, which it holds, by descent. After a fault no token stands there any more,
+     * so that every loop ends by itself and the first fault stays.
      */
     private static final class RuleReader {
         static final int DEEPEST = 6;
@@ -652,7 +652,7 @@ public final class TownTwins {
         int pot = 0;
         int rate = 0;
 
-        void read(int bytes) {
+        void start(int bytes) {
             length = Math.min(bytes, text.length);
             behind = 0;
             fault = 0;
@@ -661,9 +661,10 @@ public final class TownTwins {
             pot = RuleText.POT;
             rate = RuleText.RATE;
             advance();
-            for (int clause = 0; clause <= RuleText.MOST_CLAUSES && token != END && token != STOPPED; clause++) {
-                readClause(clause);
-            }
+        }
+
+        boolean hasMore() {
+            return token != END && token != STOPPED;
         }
 
         RuleText textTold(int today) {
@@ -671,7 +672,7 @@ public final class TownTwins {
                     Arrays.copyOf(steps, size));
         }
 
-        private void readClause(int clause) {
+        void readClause(int clause) {
             boolean grants = isWord("grant");
             boolean pots = isWord("pot");
             boolean hasFormula = grants || isWord("sleep");
@@ -679,11 +680,17 @@ public final class TownTwins {
                 refuse(MISPLACED);
             } else if (clause >= RuleText.MOST_CLAUSES) {
                 refuse(TOO_MUCH);
-            } else if (hasFormula) {
-                advance();
-                readFormula(grants ? RuleText.GRANT : RuleText.SLEEP);
+            }
+            advance();
+            if (hasFormula) {
+                readExpr(0);
+                if (isWord("unless")) {
+                    advance();
+                    readExpr(0);
+                    put(RuleText.UNLESS);
+                }
+                keepFormula(grants ? RuleText.GRANT : RuleText.SLEEP);
             } else {
-                advance();
                 int number = readNumber();
                 pot = pots ? number : pot;
                 rate = pots ? rate : number;
@@ -691,13 +698,7 @@ public final class TownTwins {
             readSign(';');
         }
 
-        private void readFormula(int kind) {
-            readExpr(0);
-            if (isWord("unless")) {
-                advance();
-                readExpr(0);
-                put(RuleText.UNLESS);
-            }
+        private void keepFormula(int kind) {
             if (formulas < RuleText.MOST_CLAUSES) {
                 kinds[formulas] = kind;
                 ends[formulas] = size;
@@ -847,10 +848,10 @@ public final class TownTwins {
         }
 
         private static int kindOf(int sign) {
-            if (within(sign, 'a', 'z')) {
+            if ('a' <= sign && sign <= 'z') {
                 return WORD;
             }
-            return within(sign, '0', '9') ? NUMBER : sign;
+            return '0' <= sign && sign <= '9' ? NUMBER : sign;
         }
 
         private int valueNamed() {
@@ -907,14 +908,23 @@ public final class TownTwins {
         final Towns towns = new Towns();
         final Charters charters = new Charters();
         final Events events = new Events();
-        RuleText text = null;
-        int dayLookedAt = NONE;
-        boolean isSettled = false;
+        final Union union = new Union();
 
-        final boolean[] counts = new boolean[MOST_EVENTS];
+        int dayLookedAt = NONE;
+        RuleText text = union.silence;
         final int[] brokenFrom = new int[MOST_CHARTERS];
+        final boolean[] counts = new boolean[MOST_EVENTS];
+        /** Of a visit or gift that counts: the last one of its kind and charter ahead of it, and how many are. */
+        final int[] previous = new int[MOST_EVENTS];
+        final int[] ahead = new int[MOST_EVENTS];
+        final int[] lastVisit = new int[MOST_CHARTERS];
+        final int[] lastGift = new int[MOST_CHARTERS];
+
+        /** A bit for each year whose claims and grants have been worked out. */
+        int settledYears = 0;
         final long[] claims = new long[MOST_EVENTS];
         final long[] grants = new long[MOST_EVENTS];
+        final int[] yearRow = new int[MOST_EVENTS];
         final long[] lost = new long[MOST_EVENTS];
         final long[] values = new long[RuleText.VALUES];
         final long[] stack = new long[RuleText.STACK_ROOM];
@@ -923,24 +933,44 @@ public final class TownTwins {
             dayLookedAt = NONE;
         }
 
-        void look(int k, RuleText textThen) {
+        void look(int k) {
             if (dayLookedAt == k) {
                 return;
             }
             dayLookedAt = k;
-            isSettled = false;
-            text = textThen;
+            settledYears = 0;
+            text = union.textOn(k);
+            findBreaks();
+            Arrays.fill(lastVisit, NONE);
+            Arrays.fill(lastGift, NONE);
+            for (int i = 0; i < events.count; i++) {
+                int e = events.order[i];
+                counts[e] = events.kind[e] != BROKEN && isKnown(e) && isAlive(events.charter[e], events.day[e]);
+                if (counts[e]) {
+                    chain(e, events.kind[e] == VISIT ? lastVisit : lastGift);
+                }
+            }
+        }
+
+        private void findBreaks() {
             Arrays.fill(brokenFrom, NEVER);
             for (int e = 0; e < events.count; e++) {
-                if (events.kind[e] == BROKEN && events.isKnown(e, k)) {
+                if (events.kind[e] == BROKEN && isKnown(e)) {
                     int charter = events.charter[e];
                     brokenFrom[charter] = Math.min(brokenFrom[charter], events.day[e]);
                 }
             }
-            for (int e = 0; e < events.count; e++) {
-                counts[e] = events.kind[e] != BROKEN && events.isKnown(e, k)
-                        && isAlive(events.charter[e], events.day[e]);
-            }
+        }
+
+        private void chain(int event, int[] last) {
+            int charter = events.charter[event];
+            previous[event] = last[charter];
+            ahead[event] = last[charter] == NONE ? 0 : ahead[last[charter]] + 1;
+            last[charter] = event;
+        }
+
+        private boolean isKnown(int event) {
+            return events.told[event] <= dayLookedAt && dayLookedAt < events.takenBack[event];
         }
 
         boolean isAlive(int charter, int day) {
@@ -948,65 +978,50 @@ public final class TownTwins {
         }
 
         boolean holds(int event) {
-            return events.kind[event] == BROKEN ? events.isKnown(event, dayLookedAt) : counts[event];
+            return events.kind[event] == BROKEN ? isKnown(event) : counts[event];
+        }
+
+        private int lastBy(int day, int[] last, int charter) {
+            int event = last[charter];
+            for (int i = 0; i < MOST_EVENTS && event != NONE && events.day[event] > day; i++) {
+                event = previous[event];
+            }
+            return event;
+        }
+
+        int visitsBy(int charter, int day) {
+            return upTo(lastBy(day, lastVisit, charter));
+        }
+
+        private int upTo(int event) {
+            return event == NONE ? 0 : ahead[event] + 1;
         }
 
         int turnOn(int charter, int day) {
-            return turnAfter(lastAhead(VISIT, charter, day, MOST_EVENTS));
+            return turnAfter(lastBy(day, lastVisit, charter));
         }
 
         private int turnAfter(int visit) {
             return visit == NONE ? 0 : 1 - events.side[visit];
         }
 
-        /** The last of a kind that counts, ahead of the place that an event of that day and number has. */
-        private int lastAhead(int kind, int charter, int day, int number) {
-            int last = NONE;
-            for (int e = 0; e < events.count; e++) {
-                if (isOneAhead(e, kind, charter, day, number)
-                        && (last == NONE || events.day[e] >= events.day[last])) {
-                    last = e;
-                }
-            }
-            return last;
-        }
-
-        int visitsAhead(int charter, int day, int number) {
-            int many = 0;
-            for (int e = 0; e < events.count; e++) {
-                if (isOneAhead(e, VISIT, charter, day, number)) {
-                    many++;
-                }
-            }
-            return many;
-        }
-
-        private boolean isOneAhead(int event, int kind, int charter, int day, int number) {
-            return counts[event] && events.kind[event] == kind && events.charter[event] == charter
-                    && events.isAhead(event, day, number);
-        }
-
         int generousSide(int charter, int day) {
-            int last = lastAhead(GIFT, charter, day, MOST_EVENTS);
-            if (last == NONE) {
+            int gift = lastBy(day, lastGift, charter);
+            if (upTo(gift) < 3) {
                 return NONE;
             }
-            int side = events.side[last];
-            int gift = last;
-            for (int more = 0; more < 2; more++) {
-                gift = lastAhead(GIFT, charter, events.day[gift], gift);
-                if (gift == NONE || events.side[gift] != side) {
-                    return NONE;
-                }
-            }
-            return side;
+            int second = previous[gift];
+            int third = previous[second];
+            int side = events.side[gift];
+            return events.side[second] == side && events.side[third] == side ? side : NONE;
         }
 
         boolean sleeps(int charter, int day) {
-            if (text == null || !isAlive(charter, day)) {
+            if (!isAlive(charter, day)) {
                 return false;
             }
-            int last = valueUp(charter, day, MOST_EVENTS);
+            int last = lastBy(day, lastVisit, charter);
+            setShared(charter, day, last);
             values[RuleText.GUESTS] = 0;
             values[RuleText.NIGHTS] = 0;
             values[RuleText.YOUNG] = 0;
@@ -1016,112 +1031,104 @@ public final class TownTwins {
         }
 
         private long claimOf(int visit) {
-            if (text == null) {
-                return 0;
-            }
             int charter = events.charter[visit];
             int side = events.side[visit];
-            int last = valueUp(charter, events.day[visit], visit);
+            setShared(charter, events.day[visit], previous[visit]);
             values[RuleText.GUESTS] = events.number[visit];
             values[RuleText.NIGHTS] = events.nights[visit];
             values[RuleText.YOUNG] = events.young[visit];
             values[RuleText.PEOPLE] = towns.people[side == 0 ? charters.a[charter] : charters.b[charter]];
-            values[RuleText.TURN] = turnAfter(last) == side ? 1 : 0;
+            values[RuleText.TURN] = turnAfter(previous[visit]) == side ? 1 : 0;
             return text.claim(values, stack);
         }
 
-        /** Sets the values that visits and sleep share; answers the last visit ahead. */
-        private int valueUp(int charter, int day, int number) {
+        /** Sets the values that have one meaning for visits and for sleep. */
+        private void setShared(int charter, int day, int lastAhead) {
             int a = charters.a[charter];
             int b = charters.b[charter];
-            int last = lastAhead(VISIT, charter, day, number);
             values[RuleText.MILES] = towns.miles(a, b);
             values[RuleText.COMMON] = towns.commonTongues(a, b);
-            values[RuleText.SINCE] = day - (last == NONE ? charters.from[charter] : events.day[last]);
+            values[RuleText.SINCE] = day - (lastAhead == NONE ? charters.from[charter] : events.day[lastAhead]);
             values[RuleText.AGE] = day - charters.from[charter];
-            values[RuleText.VISITS] = visitsAhead(charter, day, number);
+            values[RuleText.VISITS] = upTo(lastAhead);
             values[RuleText.YEAR] = day / DAYS_A_YEAR;
-            return last;
         }
 
         long costOf(int visit) {
-            return text == null ? 0 : (long) events.number[visit] * events.nights[visit] * text.rate;
+            return (long) events.number[visit] * events.nights[visit] * text.rate;
         }
 
-        void settle() {
-            if (isSettled) {
+        void settleYearOf(int event) {
+            int year = events.day[event] / DAYS_A_YEAR;
+            if ((settledYears & 1 << year) != 0) {
                 return;
             }
-            isSettled = true;
-            for (int e = 0; e < events.count; e++) {
-                claims[e] = isCountedVisit(e) ? claimOf(e) : 0;
-            }
-            for (int year = 0; year < YEARS; year++) {
-                settleYear(year);
-            }
-        }
-
-        private boolean isCountedVisit(int event) {
-            return counts[event] && events.kind[event] == VISIT;
-        }
-
-        private boolean isVisitIn(int event, int year) {
-            return isCountedVisit(event) && events.day[event] / DAYS_A_YEAR == year;
-        }
-
-        private void settleYear(int year) {
-            long pot = text == null ? 0 : text.pot;
+            settledYears |= 1 << year;
+            int many = listVisits(year);
             long all = 0;
-            for (int e = 0; e < events.count; e++) {
-                if (isVisitIn(e, year)) {
-                    all += claims[e];
-                    grants[e] = claims[e];
-                }
+            for (int i = 0; i < many; i++) {
+                int visit = yearRow[i];
+                claims[visit] = claimOf(visit);
+                grants[visit] = claims[visit];
+                all += claims[visit];
             }
-            if (all > pot && all > 0) {
-                sharePot(year, pot, all);
-            }
-        }
-
-        private void sharePot(int year, long pot, long all) {
-            long left = pot;
-            for (int e = 0; e < events.count; e++) {
-                if (isVisitIn(e, year) && all > 0) {
-                    grants[e] = pot * claims[e] / all;
-                    lost[e] = pot * claims[e] % all;
-                    left -= grants[e];
-                }
-            }
-            for (int e = 0; e < events.count; e++) {
-                if (isVisitIn(e, year) && losersAhead(e, year) < left) {
-                    grants[e]++;
-                }
+            if (all > text.pot) {
+                sharePot(many, all);
             }
         }
 
-        private int losersAhead(int visit, int year) {
+        private int listVisits(int year) {
             int many = 0;
-            for (int e = 0; e < events.count; e++) {
-                if (isVisitIn(e, year) && (lost[e] > lost[visit]
-                        || lost[e] == lost[visit] && events.isAhead(e, events.day[visit], visit))) {
-                    many++;
+            for (int i = 0; i < events.count; i++) {
+                int e = events.order[i];
+                if (counts[e] && events.kind[e] == VISIT && events.day[e] / DAYS_A_YEAR == year) {
+                    yearRow[many++] = e;
                 }
             }
             return many;
+        }
+
+        private void sharePot(int many, long all) {
+            if (all <= 0) {
+                return;
+            }
+            long left = text.pot;
+            for (int i = 0; i < many; i++) {
+                long part = text.pot * claims[yearRow[i]];
+                grants[yearRow[i]] = part / all;
+                lost[i] = part % all;
+                left -= part / all;
+            }
+            for (int i = 0; i < many; i++) {
+                if (losersAhead(i, many) < left) {
+                    grants[yearRow[i]]++;
+                }
+            }
+        }
+
+        private int losersAhead(int place, int many) {
+            int losers = 0;
+            for (int i = 0; i < many; i++) {
+                if (lost[i] > lost[place] || lost[i] == lost[place] && i < place) {
+                    losers++;
+                }
+            }
+            return losers;
         }
 
         long balanceOf(int charter, int side, int day) {
             long sum = 0;
             for (int e = 0; e < events.count; e++) {
                 if (counts[e] && events.charter[e] == charter && events.day[e] <= day) {
-                    sum += events.kind[e] == GIFT ? givenBy(side, e) : borneBy(side, e);
+                    if (events.kind[e] == VISIT) {
+                        settleYearOf(e);
+                        sum += borneBy(side, e);
+                    } else if (events.side[e] == side) {
+                        sum += events.number[e];
+                    }
                 }
             }
             return sum;
-        }
-
-        private long givenBy(int side, int gift) {
-            return events.side[gift] == side ? events.number[gift] : 0;
         }
 
         private long borneBy(int side, int visit) {

@@ -18,6 +18,7 @@ public final class KnownTest {
         costs();
         balances();
         rulesByDays();
+        fullObject();
         CHECKS.end();
     }
 
@@ -167,7 +168,8 @@ public final class KnownTest {
         visit(x, 0, 2, 0, 3, 390);
         visit(x, 0, 2, 1, 3, 400);
         visit(x, 0, 2, 0, 3, 500);
-        CHECKS.due("rules", Checks.tell(x, "sleep " + value + " = " + due + ";"), 0);
+        CHECKS.due("rules", Checks.tell(x, "grant 5; sleep " + value + " = " + due + ";"), 0);
+        CHECKS.due("a visit's claim ahead, which must leave nothing behind", x.told(2, 1, 800), 5);
         CHECKS.due(value + " for sleep on 500 is " + due, x.about(0, 2, 500, 800), 1);
     }
 
@@ -413,5 +415,40 @@ public final class KnownTest {
         x.days(5);
         x.rules(0);
         CHECKS.due("no clause, no grant", x.told(0, 1, 10), 0);
+    }
+
+    /** 24 charters and 200 events: every row is full. */
+    private static void fullObject() {
+        TownTwins x = new TownTwins();
+        for (int i = 0; i < 16; i++) {
+            x.town(i, i, 10, 255);
+        }
+        for (int i = 0; i < 24; i++) {
+            x.charter(i % 16, (i + 1) % 16, 0);
+        }
+        x.days(3599);
+        for (int i = 0; i < 200; i++) {
+            CHECKS.due("event " + i, visit(x, i < 100 ? 23 : i % 24, 1, i % 2, 1, 3599 - i), i);
+        }
+        Checks.tell(x, "grant 2; pot 199; rate 3;");
+        // all are in the last year, and their claims come to 400: one penny each, the last by days gets none
+        long sum = 0;
+        for (int e = 0; e < 200; e++) {
+            long grant = x.told(e, 2, 3599);
+            CHECKS.due("a grant is one, but for the last", grant, e == 0 ? 0 : 1);
+            sum += grant;
+        }
+        CHECKS.due("the pot is gone", sum, 199);
+        CHECKS.due("visits of the last charter", x.about(23, 3, 3599, 3599), 104);
+        CHECKS.due("turn of the last charter", x.about(23, 1, 3599, 3599), 1);
+        CHECKS.due("it does not sleep", x.about(23, 2, 3599, 3599), 0);
+        CHECKS.due("nobody is generous", x.about(23, 4, 3599, 3599), -1);
+        // side 0 travelled on even numbers: 50 times, two less one penny each, and bore one of the others' 54
+        CHECKS.due("balance of side 0", x.balance(23, 0, 3599, 3599), 50 + 1 + 54);
+        CHECKS.due("balance of side 1", x.balance(23, 1, 3599, 3599), 54 + 50);
+        CHECKS.due("another event", visit(x, 0, 1, 0, 1, 0), -1);
+        CHECKS.due("back(0)", x.back(0), true);
+        CHECKS.due("the pot reaches for all but none of what is back", x.told(0, 2, 3599), 0);
+        CHECKS.due("one penny each", x.told(1, 2, 3599), 1);
     }
 }

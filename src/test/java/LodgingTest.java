@@ -47,6 +47,8 @@ public final class LodgingTest {
         }
         CHECKS.due("the ninth guest", x.guest(2, 3, true), -1);
         CHECKS.due("count(5)", x.count(5), 8);
+        x.empty();
+        CHECKS.due("a guest without tongues", x.guest(0, 5, true), 0);
     }
 
     private static void likings() {

@@ -195,7 +195,7 @@ public final class ModelTest {
 
     private void story() {
         int dice = random.nextInt(40);
-        if (dice < 14) {
+        if (dice < (seed % 4 == 0 ? 26 : 14)) {
             event();
         } else if (dice < 17) {
             days();

@@ -213,6 +213,11 @@ public final class RulesTest {
         // the least long by -1 is itself
         worth("65536 * 65536 * 65536 * 32768 / (0 - 1) < 0", 1);
         worth("65536 * 65536 * 65536 * 65536 + 3", 3);
+        // as much on the stack as there can be: the left sides of all joins, on all six levels
+        String deep = "0 or 1 and 1 < 1 + 2 * (".repeat(5) + "0 or 1 and 1 < 1 + 2 * 7" + ")".repeat(5);
+        worth(deep, 1);
+        worth("77 unless " + deep, 0);
+        worth("77 unless 0 or 1 and 1 < 1 + 2 * " + "(0 or 1 and 1 < 1 + 2 * ".repeat(5) + "0" + ")".repeat(5), 77);
     }
 
     private static void values() {
