@@ -110,6 +110,9 @@ public final class RulesTest {
         CHECKS.fault("grant 1 +;", 1, 9);
         CHECKS.fault("grant 1 + \t 2;", 1, 10);
         CHECKS.fault("grant 1 & 2;", 1, 8);
+        CHECKS.fault("grant 1 {;", 1, 8);
+        CHECKS.fault("grant 1 `;", 1, 8);
+        CHECKS.fault("grant :;", 1, 6);
         CHECKS.fault("grant 1\r;", 1, 7);
         CHECKS.fault("pot guests;", 1, 4);
         CHECKS.fault("pot;", 1, 3);
@@ -150,6 +153,8 @@ public final class RulesTest {
 
     private static void noValue() {
         CHECKS.fault("grant t;", 3, 6);
+        CHECKS.fault("grant z;", 3, 6);
+        CHECKS.fault("grant a;", 3, 6);
         CHECKS.fault("grant unless;", 3, 6);
         CHECKS.fault("grant guest;", 3, 6);
         CHECKS.fault("grant guestsnights;", 3, 6);
