@@ -56,6 +56,39 @@ final class Checks {
         }
     }
 
+    /** What an object tells of itself in some twenty calls: all counts, the fault's place and what is kept. */
+    static String state(TownTwins twins) {
+        StringBuilder text = new StringBuilder();
+        for (int what = 0; what <= 8; what++) {
+            text.append(twins.count(what)).append(' ');
+        }
+        text.append("fault ").append(twins.fault());
+        text.append(" lodged ").append(orThrown(() -> twins.lodged(-1))).append(orThrown(() -> twins.lodged(0)));
+        text.append(" planned ").append(orThrown(() -> twins.planned(-1))).append(orThrown(() -> twins.planned(0)));
+        for (int town = 0; town < Math.min(4, twins.count(1)); town++) {
+            text.append(" friend ").append(twins.friend(town));
+        }
+        return text.toString();
+    }
+
+    private static String orThrown(Call call) {
+        try {
+            return call.answer() + " ";
+        } catch (NoSuchElementException e) {
+            return "none ";
+        }
+    }
+
+    /** A call that is refused, or only asks, leaves everything as it was. */
+    void unchanged(String what, TownTwins twins, String before) {
+        String now = state(twins);
+        asked++;
+        if (!now.equals(before)) {
+            wrong++;
+            System.out.println(test + ": " + what + " left '" + now + "', due is '" + before + "'");
+        }
+    }
+
     /** Puts a text on the tape, with blanks behind it up to the next twenty. */
     static void feed(TownTwins twins, String text) {
         for (int at = 0; at < text.length(); at += 20) {
