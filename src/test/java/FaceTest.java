@@ -6,17 +6,20 @@ import java.util.Arrays;
 import java.util.HashSet;
 import java.util.Set;
 
-/** The public face is the document's, and nothing else can be seen from outside. */
+/**
+ * The public face is the document's, and nothing else can be seen from outside. Behind a method stands what it
+ * says it throws: N for NoSuchElementException, I for IllegalArgumentException.
+ */
 public final class FaceTest {
     private static final String[] METHODS = {
-        "int town(int,int,int,int)", "int charter(int,int,int)", "int days(int)",
-        "int event(int,int,int,int,int,int,int)", "boolean back(int)", "int feed(int,int,int,int,int)",
-        "int rules(int)", "int fault()", "int about(int,int,int,int)", "long told(int,int,int)",
-        "long balance(int,int,int,int)", "void empty()", "int home(int,int,boolean,int)",
-        "int guest(int,int,boolean)", "int liking(int,int)", "int lodge()", "int lodged(int)",
-        "int plan(int,int,int,long)", "void clear()", "int calendar()", "int planned(int)",
-        "boolean wish(int,int,int)", "int pair(int,int)", "int friend(int)", "int stables(int,int)",
-        "int count(int)",
+        "int town(int,int,int,int)", "int charter(int,int,int) N", "int days(int) I",
+        "int event(int,int,int,int,int,int,int) N", "boolean back(int) N", "int feed(int,int,int,int,int)",
+        "int rules(int) I", "int fault()", "int about(int,int,int,int) NI", "long told(int,int,int) NI",
+        "long balance(int,int,int,int) NI", "void empty()", "int home(int,int,boolean,int)",
+        "int guest(int,int,boolean)", "int liking(int,int) N", "int lodge()", "int lodged(int) N",
+        "int plan(int,int,int,long) N", "void clear()", "int calendar()", "int planned(int) N",
+        "boolean wish(int,int,int) N", "int pair(int,int)", "int friend(int) N", "int stables(int,int)",
+        "int count(int) N",
     };
 
     public static void main(String[] args) {
@@ -79,6 +82,10 @@ public final class FaceTest {
         for (Class<?> type : method.getParameterTypes()) {
             text.append(text.charAt(text.length() - 1) == '(' ? "" : ",").append(type.getName());
         }
-        return text.append(')').toString();
+        text.append(method.getExceptionTypes().length == 0 ? ")" : ") ");
+        for (Class<?> thrown : method.getExceptionTypes()) {
+            text.append(thrown.getSimpleName().charAt(0));
+        }
+        return text.toString();
     }
 }

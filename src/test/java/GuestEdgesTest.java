@@ -1,3 +1,5 @@
+import java.util.Random;
+
 /** Promises 13 to 18, with part 3 of the terms: each sentence that names an edge, by itself. */
 public final class GuestEdgesTest {
     private static final Checks CHECKS = new Checks("GuestEdgesTest");
@@ -20,11 +22,13 @@ public final class GuestEdgesTest {
         thenTheSum();
         thenTheFirstRow();
         noneBehindAll();
+        firstOfMany();
         movedAlongAChain();
         greatest();
         nobodyAndNowhere();
         whatIsKept();
         everySmallCase();
+        manyLikeOnes();
         CHECKS.end();
     }
 
@@ -308,6 +312,31 @@ public final class GuestEdgesTest {
         row("but the sum is ahead of the row", x, 26, -1, 0, 1);
     }
 
+    private static TownTwins oneBedEach(int[] homes, int[] guests) {
+        TownTwins x = new TownTwins();
+        for (int tongues : homes) {
+            x.home(1, tongues, false, 0);
+        }
+        for (int tongues : guests) {
+            x.guest(tongues, 0, false);
+        }
+        return x;
+    }
+
+    /** T: the first as a row: an earlier guest's home weighs more than all that come behind, none included. */
+    private static void firstOfMany() {
+        // also to be had for the same sum: 1 0 and none else
+        row("0, none and 1", oneBedEach(new int[] {2, 1}, new int[] {3, 6, 3, 1, 4, 4, 2, 2}), 26,
+                0, -1, 1, -1, -1, -1, -1, -1);
+        // 1 0 2 none none 3
+        row("0 ahead of two without", oneBedEach(new int[] {5, 13, 9, 11}, new int[] {12, 4, 3, 6, 1, 15}), 61,
+                0, -1, 3, -1, 2, 1);
+        // 1 0 none 4 2 3 none 5
+        row("0 ahead of two without, of eight",
+                oneBedEach(new int[] {26, 23, 4, 21, 9, 11}, new int[] {22, 18, 16, 13, 20, 23, 4, 11}), 102,
+                0, -1, -1, 4, 3, 1, 2, 5);
+    }
+
     /** T: most GUESTS: one more home is found only when all others move on. */
     private static void movedAlongAChain() {
         TownTwins x = new TownTwins();
@@ -337,6 +366,14 @@ public final class GuestEdgesTest {
             x.guest(255, 99, true);
         }
         row("eight of eight", x, 8 * 34, 0, 0, 0, 0, 1, 1, 1, 1);
+        x.empty();
+        for (int h = 0; h < 6; h++) {
+            x.home(4, 255, true, 99);
+        }
+        for (int g = 0; g < 8; g++) {
+            x.guest(255, 99, false);
+        }
+        row("24 beds, and none of eight bears cats", x, 0, -1, -1, -1, -1, -1, -1, -1, -1);
     }
 
     /** 17: how many GUESTS are in HOMES: none, where there is nobody, or no home. */
@@ -398,6 +435,29 @@ public final class GuestEdgesTest {
                 for (int g = -1; g < 4; g++) {
                     CHECKS.due(what + ", guest " + g, x.lodged(g), due.lodged(g));
                 }
+            }
+        }
+    }
+
+    /** T: THE BEST, for homes of one bed and guests of three tongues and two ages: most have many like ones. */
+    private static void manyLikeOnes() {
+        Random random = new Random(17);
+        for (int n = 0; n < 20000; n++) {
+            TownTwins x = new TownTwins();
+            Model due = new Model();
+            for (int h = 2 + n % 5; h > 0; h--) {
+                int tongues = 1 + random.nextInt(7);
+                x.home(1, tongues, false, h % 2);
+                due.home(1, tongues, false, h % 2);
+            }
+            for (int g = 0; g < 8; g++) {
+                int tongues = 1 + random.nextInt(7);
+                x.guest(tongues, g % 2, false);
+                due.guest(tongues, g % 2, false);
+            }
+            CHECKS.due("17: like ones " + n, x.lodge(), due.lodge());
+            for (int g = -1; g < 8; g++) {
+                CHECKS.due("18: like ones " + n + ", guest " + g, x.lodged(g), due.lodged(g));
             }
         }
     }

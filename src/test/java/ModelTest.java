@@ -212,7 +212,7 @@ public final class ModelTest {
 
     private void lodging() {
         int tongues = random.nextInt(2) == 0 ? 3 : 255;
-        int ages = random.nextInt(2) == 0 ? 15 : 99;
+        int ages = random.nextInt(2) == 0 ? 1 : random.nextInt(2) == 0 ? 15 : 99;
         same("empty()", () -> {
             twins.empty();
             return 0;

@@ -628,6 +628,13 @@ public final class UnionEdgesTest {
         CHECKS.due("12: nobody gets anything", x.balance(0, 0, 10, 10), 20);
         Checks.tell(x, "grant 0; pot 0;");
         CHECKS.due("T: no claims and no pot", x.told(0, 2, 10), 0);
+        TownTwins one = charterFrom(0, 10);
+        visit(one, 0, 0);
+        Checks.tell(one, "grant 1; pot 0;");
+        CHECKS.due("T: a pot of 0 and one penny's claim", one.told(0, 2, 10), 0);
+        CHECKS.due("T: that claim", one.told(0, 1, 10), 1);
+        Checks.tell(one, "grant 1; pot 1;");
+        CHECKS.due("T: a pot of one penny reaches", one.told(0, 2, 10), 1);
         Checks.tell(x, "grant 5 * visits; pot 1;");
         CHECKS.due("T: a claim of 0 gets nothing of the pot", x.told(0, 2, 10), 0);
         CHECKS.due("T: the other gets it all", x.told(1, 2, 10), 1);
@@ -654,6 +661,8 @@ public final class UnionEdgesTest {
         shares("all but one penny", 19, days, new int[] {5, 5, 5, 5}, 4, 5, 5, 5);
         // 7 times 1, 2, 3, 4 by 10: 0 (7 left), 1 (4 left), 2 (1 left), 2 (8 left); two are over
         shares("the greatest remainders", 7, days, new int[] {1, 2, 3, 4}, 1, 1, 2, 3);
+        // 10 times 3, 5, 7 by 15: 2 (0 left), 3 (5 left), 4 (10 left); one is over
+        shares("who loses most is the last", 10, new int[] {10, 20, 30}, new int[] {3, 5, 7}, 2, 3, 5);
         // 1 times 1, 1, 1, 2 by 5: nothing, and the pot's one penny for the one who lost 2
         shares("a pot of one penny", 1, days, new int[] {1, 1, 1, 2}, 0, 0, 0, 1);
         shares("a pot of one penny for like ones", 1, days, new int[] {1, 1, 1, 1}, 0, 0, 0, 1);
