@@ -34,6 +34,7 @@ public final class TownTwins {
     private static final int GIFT = 2;
 
     private static final int TOO_MANY_TEXTS = 9;
+    private static final int GENEROUS_GIFTS = 3;
 
     private final Known known = new Known();
     private final Towns towns = known.towns;
@@ -1007,13 +1008,14 @@ public final class TownTwins {
 
         int generousSide(int charter, int day) {
             int gift = lastBy(day, lastGift, charter);
-            if (upTo(gift) < 3) {
-                return NONE;
+            int side = gift == NONE ? NONE : events.side[gift];
+            for (int gifts = 1; gifts < GENEROUS_GIFTS && gift != NONE; gifts++) {
+                gift = previous[gift];
+                if (gift == NONE || events.side[gift] != side) {
+                    return NONE;
+                }
             }
-            int second = previous[gift];
-            int third = previous[second];
-            int side = events.side[gift];
-            return events.side[second] == side && events.side[third] == side ? side : NONE;
+            return side;
         }
 
         boolean sleeps(int charter, int day) {
