@@ -23,6 +23,7 @@ public final class FriendEdgesTest {
         askedDownTheRow();
         someStayAlone();
         sixOfEach();
+        refusedAgainAndAgain();
         whatIsKept();
         stablesKeepNothing();
         everyCaseOfTwo();
@@ -367,6 +368,28 @@ public final class FriendEdgesTest {
         CHECKS.due("24: the first and the last town", last.pair(1, 1 << 15), 1);
         CHECKS.due("25: of the last", last.friend(15), 0);
         CHECKS.due("25: of the first", last.friend(0), 15);
+    }
+
+    /** T: BY THE FIRST, where the first ones are refused so often that 26 rounds of asking are needed. */
+    private static void refusedAgainAndAgain() {
+        int[][] firsts = {
+            {7, 9, 11, 6, 8, 10}, {8, 11, 6, 9, 7, 10}, {9, 11, 7, 6, 8, 10},
+            {11, 6, 8, 7, 9, 10}, {6, 7, 8, 9, 11, 10}, {9, 7, 8, 11, 6, 10},
+        };
+        int[][] seconds = {
+            {5, 4, 1, 3, 2, 0}, {1, 0, 2, 4, 3, 5}, {2, 0, 1, 3, 5, 4},
+            {3, 0, 2, 5, 4, 1}, {4, 0, 3, 1, 5, 2}, {4, 2, 3, 5, 0, 1},
+        };
+        TownTwins x = towns(12);
+        for (int i = 0; i < 6; i++) {
+            wish(x, i, firsts[i]);
+            wish(x, 6 + i, seconds[i]);
+        }
+        CHECKS.due("24: six pairs in the end", x.pair(63, 63 << 6), 6);
+        friends("the last one that each asks", x, 10, 7, 8, 9, 11, 6, 5, 1, 2, 3, 0, 4);
+        CHECKS.due("26: no other way", x.stables(63, 63 << 6), 1);
+        CHECKS.due("24: the other way round", x.pair(63 << 6, 63), 6);
+        friends("the same", x, 10, 7, 8, 9, 11, 6, 5, 1, 2, 3, 0, 4);
     }
 
     /** 25: The friend of a TOWN by what is kept; NONE. */
